@@ -156,6 +156,8 @@ public final class PromisesTest {
         fault("N2Pl2", 4);
         fault("N2Pl1", 5);
         fault("N2Pl10", 5);
+        fault("N2Pl1:", 5);
+        fault("N2Pl19/", 6);
         fault("N2Pl192", 6);
         fault("N2Pl191", NONE);
         fault("N2Pr010", NONE);
@@ -340,9 +342,9 @@ public final class PromisesTest {
         due.is("12 acts at most", 12, x.about(6));
         for (int i = 11; i >= 0; i--) {
             due.is("undo to " + i, i, x.undo());
+            due.is("the clock at " + i, 18 + 6 * i, x.person(2, 4));
         }
         due.is("the first ones are forgotten", LATE, x.undo());
-        due.is("they stay done", 18, x.person(2, 4));
         x = Due.townOf("N2C011lPl091Pr091");
         for (int i = 0; i < 12; i++) {
             x.glide(0, 1, 0);
