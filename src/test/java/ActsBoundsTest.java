@@ -28,7 +28,8 @@ public final class ActsBoundsTest {
 
     private static String standing(OneSkate x) {
         StringBuilder told = new StringBuilder();
-        for (int person = 0; person < x.about(2); person++) {
+        int people = x.about(2);
+        for (int person = 0; person < people; person++) {
             told.append(x.person(person, 1)).append(' ').append(x.person(person, 4)).append(' ');
             told.append(x.person(person, 5)).append("; ");
         }

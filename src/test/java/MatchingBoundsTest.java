@@ -253,6 +253,7 @@ public final class MatchingBoundsTest {
     private static void worth() {
         due.sentence("WORTH of one's FOOT: THE SOONEST if it had the other FOOT, less THE SOONEST now, and 1000; "
                 + "NONE: one of these is none.");
+        due.is("all are there: 0 less 0", 1000, Due.townOf("N2C011sPl010Pr111").worth(0));
         due.is("alone, either foot", 1000, Due.townOf("N2C011sPl011").worth(0));
         due.is("a pair that it would lose", 1000 + 54 - 18, Due.townOf("N2C011sPl011Pr011").worth(1));
         due.is("a pair that it would make", 1000 + 18 - 54, Due.townOf("N2C011sPl011Pl011").worth(0));
@@ -367,6 +368,12 @@ public final class MatchingBoundsTest {
         // 0 asks 3; 1 asks 3, who leaves 0; now 0, not 2, asks 4, and 4 stays with 0 though 2 is as good.
         asking("N2C011sPl011Pl031Pl011Pr051Pr021", 4, 3, 2, 1, 0);
         asking("N2C011sPl011Pl011Pl011Pr011Pr011Pr011", 3, 4, 5, 0, 1, 2);
+        // 0 is at 10 by 2 and by 3, 1 at 10 by 2 and at 8 by 3; 2 is at 25 by 0 and at 10 by 1, 3 at 10 by 0 and
+        // at 20 by 1: were the right feet to ask, 2 would be with 1 and 3 with 0.
+        String crosswise = "N3C012sC022sC121sPl051Pl062Pr052Pr061";
+        asking(crosswise, 2, 3, 0, 1);
+        leftAlone(crosswise, 2);
+        asking(crosswise.replace('l', 'R').replace('r', 'l').replace('R', 'r'), 3, 2, 1, 0);
     }
 
     private static void asksAgain() {
@@ -375,6 +382,12 @@ public final class MatchingBoundsTest {
         asking("N2C011sPl011Pl021Pl031Pr061Pr051Pr041", 5, 4, 3, 2, 1, 0);
         OneSkate x = Due.townOf("N2C011sPl011Pl021Pl031Pr061Pr051Pr041");
         due.is("asking changes nothing", 0, x.about(5) + x.about(6) + x.about(7));
+        x = Due.townOf("N2C011sPl011Pr091");
+        due.is("0 is refused", 0, x.asking(0));
+        x.wipe();
+        Due.writeWide(x, "N2C011sPl011Pr011");
+        x.town();
+        due.is("who was refused in another town asks in this one", 1, x.asking(0));
     }
 
     private static void askingOfNobody() {

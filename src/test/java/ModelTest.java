@@ -2,14 +2,17 @@ import java.util.Random;
 
 /** Runs of calls by fixed seeds, each answer compared with the model's. */
 public final class ModelTest {
-    private static final int RUNS = 400;
-    private static final int CALLS = 150;
+    private static final int RUNS = 1000;
+    private static final int STEPS = 150;
+    /** What an object answers behind its 512th call is free; the longest step is a text told byte by byte. */
+    private static final int MOST_CALLS = 512 - 100;
 
     private final Due due;
     private final Random random;
     private final int run;
     private final OneSkate skate = new OneSkate();
     private final Model model = new Model();
+    private int calls;
 
     private ModelTest(Due due, int run) {
         this.due = due;
@@ -27,12 +30,13 @@ public final class ModelTest {
 
     private void go() {
         tell(townText());
-        for (int i = 0; i < CALLS; i++) {
+        for (int i = 0; i < STEPS && calls < MOST_CALLS; i++) {
             step();
         }
     }
 
     private void same(String call, long want, long got) {
+        calls++;
         due.is("run " + run + " " + call, want, got);
     }
 

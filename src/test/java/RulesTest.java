@@ -1,11 +1,15 @@
 import java.io.IOException;
 import java.lang.reflect.Constructor;
 import java.lang.reflect.Field;
+import java.lang.reflect.InvocationTargetException;
 import java.lang.reflect.Method;
 import java.lang.reflect.Modifier;
 import java.nio.file.Files;
 import java.nio.file.Path;
 import java.util.Arrays;
+import java.util.Comparator;
+import java.util.List;
+import java.util.Random;
 import java.util.Set;
 import java.util.TreeSet;
 import java.util.regex.Pattern;
@@ -29,6 +33,8 @@ public final class RulesTest {
         constants();
         members();
         source(Files.readString(SOURCE));
+        methodLengths(Files.readAllLines(SOURCE));
+        anyArguments();
         due.close();
     }
 
@@ -92,11 +98,15 @@ public final class RulesTest {
     }
 
     private static void statics(Class<?> each) {
+        int own = 0;
         for (Field field : each.getDeclaredFields()) {
             if (Modifier.isStatic(field.getModifiers())) {
                 due.holds(field + " is final", Modifier.isFinal(field.getModifiers()));
+            } else {
+                own++;
             }
         }
+        due.holds(each + " has twenty fields at most", own <= 20);
     }
 
     private static void source(String text) {
@@ -109,5 +119,79 @@ public final class RulesTest {
             due.holds("no " + word + " in the source", !Pattern.compile(word).matcher(code).find());
         }
         due.holds("the source is plain ASCII", text.chars().allMatch(sign -> sign < 128));
+    }
+
+    /** From a method's head to the brace that closes it, by how far they stand in. */
+    private static void methodLengths(List<String> lines) {
+        Pattern head = Pattern.compile("( {4}| {8})[\\w\\[\\] ]+\\([^;]*\\) \\{");
+        int found = 0;
+        for (int from = 0; from < lines.size(); from++) {
+            if (head.matcher(lines.get(from)).matches()) {
+                found++;
+                String close = lines.get(from).replaceAll("\\S.*", "") + "}";
+                int to = from;
+                while (to < lines.size() && !lines.get(to).equals(close)) {
+                    to++;
+                }
+                due.holds("sixty lines at most: " + lines.get(from).trim(), to - from < 60);
+            }
+        }
+        due.holds("the methods were found: " + found, found >= FACE.length + 1);
+    }
+
+    /** No call throws, whatever its arguments and whatever was called before; the same calls answer the same. */
+    private static void anyArguments() {
+        Method[] methods = OneSkate.class.getMethods();
+        methods = Arrays.stream(methods).filter(method -> method.getDeclaringClass() == OneSkate.class)
+                .sorted(Comparator.comparing(RulesTest::signature)).toArray(Method[]::new);
+        due.is("methods to call", FACE.length, methods.length);
+        for (int run = 0; run < 200; run++) {
+            Random random = new Random(run);
+            OneSkate one = startOf(run), other = startOf(run);
+            for (int call = 0; call < 400; call++) {
+                Method method = methods[random.nextInt(methods.length)];
+                Object[] arguments = someArguments(method, random);
+                String told = method.getName() + Arrays.toString(arguments);
+                long answer = answer(method, one, arguments, told);
+                due.is(told + " on the other object", answer, answer(method, other, arguments, told));
+            }
+        }
+    }
+
+    private static OneSkate startOf(int run) {
+        switch (run % 4) {
+            case 0: return States.rich();
+            case 1: return States.full();
+            case 2: return Due.townOf(States.SIX);
+            default: return States.fresh();
+        }
+    }
+
+    private static long answer(Method method, OneSkate skate, Object[] arguments, String told) {
+        try {
+            return ((Number) method.invoke(skate, arguments)).longValue();
+        } catch (InvocationTargetException thrown) {
+            due.holds(told + " threw " + thrown.getCause(), false);
+        } catch (IllegalAccessException closed) {
+            due.holds(told + " is not to be called", false);
+        }
+        return 0;
+    }
+
+    private static Object[] someArguments(Method method, Random random) {
+        int[] odd = {Integer.MIN_VALUE, Integer.MAX_VALUE, -1, 6, 7, 8, 9, 10, 11, 12, 31, 32, 60, 61, 64, 80, 99, 100};
+        Object[] arguments = new Object[method.getParameterCount()];
+        for (int i = 0; i < arguments.length; i++) {
+            Class<?> type = method.getParameterTypes()[i];
+            if (type == boolean.class) {
+                arguments[i] = random.nextBoolean();
+            } else if (type == long.class) {
+                long sign = "NCPlrs012345".charAt(random.nextInt(12));
+                arguments[i] = random.nextInt(4) == 0 ? random.nextLong() : sign;
+            } else {
+                arguments[i] = random.nextInt(6) == 0 ? odd[random.nextInt(odd.length)] : random.nextInt(6);
+            }
+        }
+        return arguments;
     }
 }

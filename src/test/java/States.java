@@ -40,10 +40,10 @@ final class States {
     /** The same with eight sights, and a text of 80 bytes that has a fault. */
     static OneSkate full() {
         OneSkate x = rich();
-        while (x.about(7) < 8) {
+        for (int sight = 3; sight < 8; sight++) {
             x.see(0, 0, false);
         }
-        while (x.about(8) < 80) {
+        for (int bytes = 27; bytes < 80; bytes++) {
             x.write(1, 'x');
         }
         return x;
